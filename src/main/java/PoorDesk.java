@@ -890,45 +890,51 @@ public final class PoorDesk {
         }
     }
 
-    /** Tells settlements by the book. Its rows are made once and filled anew by each reckoning. */
+    /**
+     * Tells settlements by the book. Its rows are made once and filled anew by each reckoning: what the laws
+     * say of the days is found ahead of the ways in which doubted facts may be so or not so.
+     */
     private static final class Reckoner {
         private final Book book;
         private final int[] gainDay = new int[MOST_FACTS];
+        // The person, then whom it goes by, then whom that one goes by, and so on.
+        private final int[] line = new int[MOST_PERSONS];
+        private final int[] birthDay = new int[MOST_PERSONS];
         private final int[] doubted = new int[MOST_DOUBTED];
         private final int[] setIfSo = new int[MOST_DOUBTED];
         private final int[] setIfNot = new int[MOST_DOUBTED];
-        private int day;
+        private int lineLength;
         private int doubts;
 
         Reckoner(Book book) {
             this.book = book;
         }
 
-        int ownOf(int person, int onDay, int known) {
-            findGains(onDay, known);
-            return ownParish(person, 0);
+        int ownOf(int person, int day, int known) {
+            prepare(person, day, known);
+            return ownParish(0, 0);
         }
 
-        int settlementOf(int person, int onDay, int known) {
-            findGains(onDay, known);
-            return ownParish(teller(person, 0), 0);
+        int settlementOf(int person, int day, int known) {
+            prepare(person, day, known);
+            return settledParish(0);
         }
 
-        int tellerOf(int person, int onDay, int known) {
-            findGains(onDay, known);
-            return teller(person, 0);
+        int tellerOf(int person, int day, int known) {
+            prepare(person, day, known);
+            return line[teller(0)];
         }
 
-        int couldBe(int person, int onDay, int known) {
-            findGains(onDay, known);
-            return tryAllWays(person);
+        int couldBe(int person, int day, int known) {
+            prepare(person, day, known);
+            return tryAllWays();
         }
 
-        int bestQuestion(int person, int onDay, int known) {
-            findGains(onDay, known);
-            tryAllWays(person);
+        int bestQuestion(int person, int day, int known) {
+            prepare(person, day, known);
+            tryAllWays();
             int best = NONE;
-            int least = MOST_PARISHES + 2;
+            int least = Integer.MAX_VALUE;
             for (int i = 0; i < doubts; i++) {
                 int most = Math.max(Integer.bitCount(setIfSo[i]), Integer.bitCount(setIfNot[i]));
                 if (most < least) {
@@ -939,14 +945,21 @@ public final class PoorDesk {
             return best;
         }
 
-        private void findGains(int onDay, int known) {
-            day = onDay;
+        private void prepare(int person, int day, int known) {
             for (int f = 0; f < book.facts.count; f++) {
-                gainDay[f] = book.facts.known[f] <= known ? dayOfGain(f) : NEVER;
+                gainDay[f] = book.facts.known[f] <= known ? gainByFact(f, day) : NEVER;
+            }
+            lineLength = 0;
+            int p = person;
+            while (lineLength < MOST_PERSONS && book.persons.has(p)) {
+                line[lineLength] = p;
+                birthDay[lineLength] = gainByBirth(p, day);
+                lineLength++;
+                p = leaderOf(p, day);
             }
         }
 
-        private int dayOfGain(int fact) {
+        private int gainByFact(int fact, int day) {
             int first = book.facts.from[fact];
             int last = book.facts.to[fact];
             boolean isService = book.facts.kind[fact] == SERVICE;
@@ -957,39 +970,12 @@ public final class PoorDesk {
             return isLawful && gained <= day ? gained : NEVER;
         }
 
-        /** The parish of the latest gain, without the facts whose bits are in denied. */
-        private int ownParish(int person, int denied) {
-            int parish = NOWHERE;
-            int latest = 0;
+        private int gainByBirth(int person, int day) {
             int born = book.persons.born[person];
-            if (born <= day && book.laws.anyRules(BIRTH_LAW, born)) {
-                parish = book.persons.birthplace[person];
-                latest = born;
-            }
-            for (int f = 0; f < book.facts.count; f++) {
-                boolean counts = book.facts.person[f] == person && (denied >> f & 1) == 0;
-                if (counts && gainDay[f] >= latest) {
-                    parish = book.facts.parish[f];
-                    latest = gainDay[f];
-                }
-            }
-            return parish;
+            return born <= day && book.laws.anyRules(BIRTH_LAW, born) ? born : NEVER;
         }
 
-        /** The farthest leader with a settlement of its own tells; without any, the person itself. */
-        private int teller(int person, int denied) {
-            int found = person;
-            int p = leaderOf(person);
-            for (int step = 0; step < MOST_PERSONS && book.persons.has(p); step++) {
-                if (ownParish(p, denied) != NOWHERE) {
-                    found = p;
-                }
-                p = leaderOf(p);
-            }
-            return found;
-        }
-
-        private int leaderOf(int person) {
+        private int leaderOf(int person, int day) {
             int born = book.persons.born[person];
             int married = book.persons.married[person];
             boolean goes = false;
@@ -1001,11 +987,41 @@ public final class PoorDesk {
             return goes ? book.persons.leader[person] : NOBODY;
         }
 
-        private int tryAllWays(int person) {
+        /** Of one in the line, the parish of the latest gain without the facts whose bits are in denied. */
+        private int ownParish(int at, int denied) {
+            int person = line[at];
+            int latest = birthDay[at];
+            int parish = latest == NEVER ? NOWHERE : book.persons.birthplace[person];
+            for (int f = 0; f < book.facts.count; f++) {
+                boolean counts = book.facts.person[f] == person && (denied >> f & 1) == 0;
+                if (counts && gainDay[f] != NEVER && gainDay[f] >= latest) {
+                    parish = book.facts.parish[f];
+                    latest = gainDay[f];
+                }
+            }
+            return parish;
+        }
+
+        /** The farthest in the line with a settlement of its own tells; without any, the person itself. */
+        private int teller(int denied) {
+            for (int at = lineLength - 1; at > 0; at--) {
+                if (ownParish(at, denied) != NOWHERE) {
+                    return at;
+                }
+            }
+            return 0;
+        }
+
+        private int settledParish(int denied) {
+            return ownParish(teller(denied), denied);
+        }
+
+        private int tryAllWays() {
             findDoubted();
             int all = 0;
             for (int way = 0; way < 1 << doubts; way++) {
-                int outcome = settlementBit(person, deniedIn(way));
+                int parish = settledParish(deniedIn(way));
+                int outcome = 1 << (parish == NOWHERE ? MOST_PARISHES : parish);
                 all |= outcome;
                 for (int i = 0; i < doubts; i++) {
                     if ((way >> i & 1) == 0) {
@@ -1036,11 +1052,6 @@ public final class PoorDesk {
                 denied |= (way >> i & 1) << doubted[i];
             }
             return denied;
-        }
-
-        private int settlementBit(int person, int denied) {
-            int parish = ownParish(teller(person, denied), denied);
-            return 1 << (parish == NOWHERE ? MOST_PARISHES : parish);
         }
     }
 

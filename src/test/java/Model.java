@@ -81,6 +81,11 @@ final class Model {
         return answer;
     }
 
+    /** For those who draw calls; no call itself. */
+    int dayOfOrder(int order) {
+        return of(order, now.orders) ? now.orders.get(order).day : 0;
+    }
+
     private int answer(int which, int[] a) {
         return switch (which) {
             case 0 -> parish(a[0]);

@@ -12,32 +12,37 @@ public final class ModelTest {
         "settlement", "through", "could", "question", "order", "appeal", "ordered", "costs", "set", "list", "earns",
         "price", "relief", "week", "rate", "sheet", "put", "copy", "read", "keep", "back", "told",
     };
-    // What each argument is: p parish, q parish or -1, h person, g person or -1, d day, k kind, f fact, l law,
-    // o order, w week, s sheet, b bits, n number of numbers, W worth, M miles, P pounds, N number, T set's v,
-    // E earned, V price, R rate, B flag, v any number.
+    // What each argument is: p parish, q parish or -1, h person, g person or -1, d day, 2 to 7 one of so many
+    // kinds, f fact, l law, o order, w week, s sheet, b bits, n place in a sheet, W worth, M miles, P pounds,
+    // N number, T set's v, E earned, V price, R rate, v any number.
     private static final String[] SHAPES = {
-        "W", "ppM", "kpd", "hk", "hgd", "hg", "khpPddd", "fB", "", "kNdd", "ld", "hdd",
-        "hdd", "hdd", "hdd", "hdd", "hppd", "od", "ok", "p", "BT", "hqw", "hE",
-        "wV", "hw", "pw", "pR", "sbn", "snv", "snsnn", "s", "", "", "k",
+        "W", "ppM", "4pd", "h4", "hgd", "hg", "2hpPddd", "f2", "", "5Ndd", "ld", "hdd",
+        "hdd", "hdd", "hdd", "hdd", "hppd", "od", "o6", "p", "2T", "hqw", "hE",
+        "wV", "hw", "pw", "pR", "sbn", "snv", "snsnn", "s", "", "", "7",
     };
     private static final int[] WEIGHTS = {
-        3, 3, 6, 2, 6, 6, 16, 10, 2, 8, 3, 6,
-        8, 8, 3, 3, 6, 6, 4, 4, 3, 6, 4,
-        5, 6, 6, 4, 4, 5, 4, 3, 1, 1, 5,
+        1, 3, 4, 2, 6, 6, 16, 10, 2, 5, 3, 6,
+        8, 8, 3, 4, 5, 7, 4, 4, 3, 6, 4,
+        6, 6, 6, 4, 3, 8, 4, 3, 1, 1, 4,
     };
     private static final int[] WILD = {
         Due.LEAST, Due.LEAST + 1, -100001, -10000, -61, -2, -1, 0, 1, 59, 60, 61, 99, 100, 999, 1000, 9999, 10000,
         10001, Due.MOST - 1, Due.MOST,
     };
 
+    // Parishes, persons and laws that most runs have from the start.
+    private static final int[] START = {0, 0, 0, 2, 2, 2, 2, 2, 9, 9, 9, 9, 9, 9};
+
     private final Random random;
+    private final PoorDesk desk = new PoorDesk();
+    private final Model model = new Model();
     private final int days;
     private final int wildness;
 
     private ModelTest(long seed) {
         random = new Random(seed);
         days = seed % 3 == 0 ? 6 : seed % 3 == 1 ? 20 : 90;
-        wildness = seed % 4 == 0 ? 5 : 60;
+        wildness = seed % 4 == 0 ? 5 : 80;
     }
 
     public static void main(String[] args) {
@@ -51,10 +56,8 @@ public final class ModelTest {
     }
 
     private boolean runsAlike(int seed) {
-        PoorDesk desk = new PoorDesk();
-        Model model = new Model();
         for (int i = 0; i < CALLS; i++) {
-            int which = i < 3 ? 0 : i < 7 ? 2 : draw(i);
+            int which = seed % 7 > 0 && i < START.length ? START[i] : draw();
             int[] a = arguments(which);
             int got = call(desk, which, a);
             int want = model.call(which, a);
@@ -67,16 +70,14 @@ public final class ModelTest {
         return true;
     }
 
-    private int draw(int i) {
-        int all = Arrays.stream(WEIGHTS).sum();
-        int at = random.nextInt(all);
+    private int draw() {
+        int at = random.nextInt(Arrays.stream(WEIGHTS).sum());
         int which = 0;
         while (at >= WEIGHTS[which]) {
             at -= WEIGHTS[which];
             which++;
         }
-        // A full desk would refuse most of what is new, so some runs go back or forget now and then.
-        return which == 2 && i > 200 && random.nextInt(9) == 0 ? 32 : which;
+        return which;
     }
 
     private int[] arguments(int which) {
@@ -92,7 +93,17 @@ public final class ModelTest {
             a[first + 1] = Math.max(a[first], a[first + 1]);
             a[first] = low;
         }
+        // Most appeals come in time.
+        if (which == 17 && random.nextInt(3) > 0) {
+            a[1] = model.dayOfOrder(a[0]) + random.nextInt(70);
+        }
         return a;
+    }
+
+    /** One of those that there are, seldom the next one. */
+    private int oneOf(int what) {
+        int there = model.call(33, new int[] {what});
+        return random.nextInt(there + (there == 0 || random.nextInt(20) == 0 ? 1 : 0));
     }
 
     private int wild() {
@@ -101,16 +112,16 @@ public final class ModelTest {
 
     private int tame(char what) {
         return switch (what) {
-            case 'p' -> random.nextInt(random.nextInt(8) == 0 ? 7 : 3);
-            case 'q' -> random.nextInt(4) - 1;
-            case 'h' -> random.nextInt(random.nextInt(3) == 0 ? 11 : 4);
-            case 'g' -> random.nextInt(8) - 1;
+            case 'p' -> oneOf(0);
+            case 'q' -> random.nextInt(4) == 0 ? -1 : random.nextInt(2);
+            case 'h' -> oneOf(1);
+            case 'g' -> random.nextInt(5) == 0 ? -1 : oneOf(1);
             case 'd' -> random.nextInt(days);
-            case 'k' -> random.nextInt(random.nextInt(2) == 0 ? 2 : 7);
-            case 'f' -> random.nextInt(random.nextInt(3) == 0 ? 25 : 12);
-            case 'l' -> random.nextInt(13);
-            case 'o' -> random.nextInt(21);
-            case 'w' -> random.nextInt(random.nextInt(4) == 0 ? 60 : 5);
+            case '2', '4', '5', '6', '7' -> random.nextInt(what - '0' + (random.nextInt(30) == 0 ? 1 : 0));
+            case 'f' -> oneOf(2);
+            case 'l' -> oneOf(3);
+            case 'o' -> oneOf(4);
+            case 'w' -> random.nextInt(random.nextInt(6) == 0 ? 61 : 4);
             case 's' -> random.nextInt(4);
             case 'b' -> new int[] {0, 8, 8, 8, 16, 16, 32}[random.nextInt(7)];
             case 'n' -> random.nextInt(random.nextInt(6) == 0 ? 62 : 8);
@@ -122,7 +133,6 @@ public final class ModelTest {
             case 'E' -> random.nextInt(random.nextInt(3) == 0 ? 1000 : 60);
             case 'V' -> random.nextInt(random.nextInt(3) == 0 ? 101 : 20);
             case 'R' -> random.nextInt(random.nextInt(3) == 0 ? 10001 : 40);
-            case 'B' -> random.nextInt(2) + random.nextInt(2) - random.nextInt(2) * random.nextInt(2);
             default -> random.nextInt(300) - 40;
         };
     }

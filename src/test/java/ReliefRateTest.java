@@ -9,6 +9,7 @@ public final class ReliefRateTest {
         week();
         rate();
         rateRests();
+        rateOfTwo();
         Due.end();
     }
 
@@ -206,5 +207,15 @@ public final class ReliefRateTest {
             Due.is(28, "rate(" + p + ", 2)", x.rate(p, 2), twos[p]);
             Due.is(28, "rate(" + p + ", 20)", x.rate(p, 20), twenties[p]);
         }
+    }
+
+    private static void rateOfTwo() {
+        PoorDesk x = new PoorDesk();
+        x.parish(5);
+        x.parish(5);
+        Due.is(28, "rate(0, 10)", x.rate(0, 10), 5);
+        Due.is(28, "rate(1, 10)", x.rate(1, 10), 5);
+        Due.is(28, "rate(0, 11)", x.rate(0, 11), 6);
+        Due.is(28, "rate(1, 11)", x.rate(1, 11), 5);
     }
 }

@@ -17,6 +17,8 @@ public final class SettlementTest {
         could();
         question();
         questionCountsNone();
+        questionTakesTheGreater();
+        eightDoubted();
         Due.end();
     }
 
@@ -372,5 +374,37 @@ public final class SettlementTest {
         x.doubt(0, false);
         // 1 of another: {1,2} twice; 2: {2} and {1}
         Due.is(17, "the later fact tells most", x.question(0, 5, 5), 2);
+    }
+
+    private static void questionTakesTheGreater() {
+        PoorDesk x = start(0);
+        x.law(0, 0, 0, 0);
+        x.law(1, 1, 0, 99);
+        x.fact(0, 2, 2, 0, 2, 2, 0);
+        x.fact(0, 2, 1, 0, 1, 1, 0);
+        x.doubt(0, true);
+        x.doubt(1, true);
+        // born in 2; 0: {2} and {1,2}; 1: {1,2} and {2}
+        Due.is(17, "the greater is the one if it is so", x.question(2, 9, 9), 0);
+    }
+
+    private static void eightDoubted() {
+        PoorDesk x = start(0);
+        x.parish(1);
+        x.parish(1);
+        x.law(1, 1, 0, 99);
+        x.law(3, 0, 0, 99);
+        x.husband(1, 0, 0);
+        for (int f = 0; f < 8; f++) {
+            x.fact(0, f < 2 ? 1 : 0, f < 6 ? f : 5, 0, 10 + f, 10 + f, 0);
+            x.doubt(f, true);
+        }
+        Due.is(16, "all six, and none", x.could(1, 50, 50), 127);
+        Due.is(16, "of the HUSBAND", x.could(0, 50, 50), 4 + 8 + 16 + 32 + 64);
+        // 0: all but none, and all but 0: 6; 1: {1,2,3,4,5} and all but 1: 6; no other is below 6
+        Due.is(17, "of the WIFE", x.question(1, 50, 50), 0);
+        // 0, 1: all 5; 2: {2,3,4,5} and {3,4,5,none}: 4; no other is below 4
+        Due.is(17, "of the HUSBAND", x.question(0, 50, 50), 2);
+        Due.is(16, "up to a day", x.could(1, 13, 50), 1 + 2 + 4 + 8 + 64);
     }
 }

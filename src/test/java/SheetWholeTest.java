@@ -9,6 +9,8 @@ public final class SheetWholeTest {
         keepAndBack();
         keepsEverything();
         backWithFewer();
+        whatIsGoneDoesNotCount();
+        forgottenFactsComeBack();
         sheetsAreNotKept();
         told();
         toldOfFindings();
@@ -285,6 +287,64 @@ public final class SheetWholeTest {
         Due.is(34, "husband(0, -1, 0): none at first", x.husband(0, -1, 0), -1);
         Due.is(34, "list(0, -1, 0): on none at first", x.list(0, -1, 0), -1);
         Due.is(34, "earns(0, 0): 0 at first", x.earns(0, 0), 0);
+    }
+
+    private static void whatIsGoneDoesNotCount() {
+        PoorDesk x = new PoorDesk();
+        x.parish(1);
+        x.parish(1);
+        x.person(0, 0, 0);
+        x.person(1, 0, 0);
+        x.person(2, 0, 0);
+        x.fact(1, 0, 0, 5, 0, 0, 0);
+        x.list(0, 0, 0);
+        x.price(0, 10);
+        x.husband(1, 0, 0);
+        x.father(2, 0);
+        x.keep();
+        for (int kind = 0; kind < 5; kind++) {
+            x.law(kind, kind == 4 ? 9 : 0, 0, 99);
+        }
+        int wife = x.person(1, 0, 0);
+        x.husband(wife, 0, 0);
+        x.list(wife, 0, 0);
+        x.order(0, 0, 1, 0);
+        Due.is(34, "relief(0, 0)", x.relief(0, 0), 50);
+        Due.is(34, "through(1, 0, 0)", x.through(1, 0, 0), 0);
+        x.back();
+        Due.is(34, "relief(0, 0)", x.relief(0, 0), 30);
+        Due.is(34, "week(0, 0)", x.week(0, 0), 30);
+        Due.is(34, "own(0, 0, 0)", x.own(0, 0, 0), Due.NONE);
+        Due.is(34, "own(1, 0, 0)", x.own(1, 0, 0), Due.NONE);
+        x.law(0, 0, 0, 0);
+        Due.is(34, "own(0, 0, 0)", x.own(0, 0, 0), 0);
+        Due.is(34, "through(1, 0, 0)", x.through(1, 0, 0), 1);
+        Due.is(34, "through(2, 0, 0)", x.through(2, 0, 0), 2);
+        Due.is(34, "costs(1)", x.costs(1), 0);
+        Due.is(34, "ordered(0, 0)", x.ordered(0, 0), Due.BEYOND);
+    }
+
+    private static void forgottenFactsComeBack() {
+        PoorDesk x = new PoorDesk();
+        x.parish(1);
+        x.parish(1);
+        x.person(0, 0, 0);
+        x.law(1, 4, 0, 99);
+        x.law(2, 5, 0, 99);
+        x.fact(0, 0, 0, 0, 5, 8, 0);
+        x.fact(1, 0, 1, 5, 9, 20, 3);
+        x.doubt(1, true);
+        x.keep();
+        x.forget();
+        x.forget();
+        x.fact(0, 0, 1, 0, 6, 8, 0);
+        x.fact(1, 0, 0, 4, 10, 10, 9);
+        Due.is(34, "own(0, 50, 50)", x.own(0, 50, 50), Due.NONE);
+        x.back();
+        Due.is(34, "own(0, 8, 50)", x.own(0, 8, 50), 0);
+        Due.is(34, "own(0, 9, 3)", x.own(0, 9, 3), 1);
+        Due.is(34, "own(0, 9, 2)", x.own(0, 9, 2), 0);
+        Due.is(34, "question(0, 9, 3)", x.question(0, 9, 3), 1);
     }
 
     private static void sheetsAreNotKept() {
