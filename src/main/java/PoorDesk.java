@@ -934,7 +934,7 @@ public final class PoorDesk {
             prepare(person, day, known);
             tryAllWays();
             int best = NONE;
-            int least = Integer.MAX_VALUE;
+            int least = MOST_PARISHES + 2;
             for (int i = 0; i < doubts; i++) {
                 int most = Math.max(Integer.bitCount(setIfSo[i]), Integer.bitCount(setIfNot[i]));
                 if (most < least) {
