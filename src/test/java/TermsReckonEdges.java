@@ -234,7 +234,19 @@ final class TermsReckonEdges {
                 x -> x.settlement(2, 10, 0), 0);
     }
 
+    /** Twelve laws, of kinds in turn, all from day 5000 on; a life of day 10, of which none of them is in force. */
+    private static World unlawful() {
+        return FOUR.each(12, (x, l) -> x.law(l % 5, 1, 5000, 9999)).then(x -> x.fact(0, 0, 1, 0, 10, 10, 0))
+                .then(x -> x.fact(1, 0, 1, 99, 10, 10, 0)).then(x -> x.person(0, 0, 5000))
+                .then(x -> x.husband(1, 4, 10)).then(x -> x.father(2, 4));
+    }
+
     private static void others() {
+        for (int p = 0; p < 4; p++) {
+            int person = p;
+            Due.answers("no law of twelve gives it one: " + p, unlawful(), x -> x.settlement(person, 9999, 9999), Due.NONE);
+            Due.answers("nor lets it go by another: " + p, unlawful(), x -> x.through(person, 9999, 9999), p);
+        }
         World w = child(99, 0, 99).then(x -> x.law(3, 0, 0, 99)).then(x -> x.husband(1, 0, 0));
         Due.answers("a PERSON", w, x -> x.settlement(0, 10, 0), 0);
         Due.answers("a FOUNDLING", w, x -> x.settlement(3, 10, 0), 1);
