@@ -891,20 +891,26 @@ public final class PoorDesk {
     }
 
     /**
-     * Tells settlements by the book. Its rows are made once and filled anew by each reckoning: what the laws
-     * say of the days is found ahead of the ways in which doubted facts may be so or not so.
+     * Tells settlements by the book. Its rows are made once and filled anew by each reckoning. Whom one goes by does
+     * not hang on facts, so the gains that may tell have one order, whichever facts are so: those of the farthest in
+     * the line first, of each person the latest first. The first of them that is so tells.
      */
     private static final class Reckoner {
+        // By what one is settled, where it is by no fact.
+        private static final int NO_GAIN = -2;
+        private static final int BY_BIRTH = -1;
+        // Each turn but the last has a DOUBTED fact of its own.
+        private static final int MOST_TURNS = MOST_DOUBTED + 1;
+
         private final Book book;
         private final int[] gainDay = new int[MOST_FACTS];
         // The person, then whom it goes by, then whom that one goes by, and so on.
         private final int[] line = new int[MOST_PERSONS];
         private final int[] birthDay = new int[MOST_PERSONS];
-        private final int[] doubted = new int[MOST_DOUBTED];
-        private final int[] setIfSo = new int[MOST_DOUBTED];
-        private final int[] setIfNot = new int[MOST_DOUBTED];
+        private final int[] gainOfTurn = new int[MOST_TURNS];
+        private final int[] bitOfTurn = new int[MOST_TURNS];
         private int lineLength;
-        private int doubts;
+        private int turns;
 
         Reckoner(Book book) {
             this.book = book;
@@ -912,12 +918,13 @@ public final class PoorDesk {
 
         int ownOf(int person, int day, int known) {
             prepare(person, day, known);
-            return ownParish(0, 0);
+            return parishBy(0, latestGain(0, 0));
         }
 
         int settlementOf(int person, int day, int known) {
             prepare(person, day, known);
-            return settledParish(0);
+            int at = teller(0);
+            return parishBy(at, latestGain(at, 0));
         }
 
         int tellerOf(int person, int day, int known) {
@@ -927,19 +934,20 @@ public final class PoorDesk {
 
         int couldBe(int person, int day, int known) {
             prepare(person, day, known);
-            return tryAllWays();
+            takeTurns();
+            return setUpTo(NO_GAIN);
         }
 
         int bestQuestion(int person, int day, int known) {
             prepare(person, day, known);
-            tryAllWays();
+            takeTurns();
             int best = NONE;
             int least = MOST_PARISHES + 2;
-            for (int i = 0; i < doubts; i++) {
-                int most = Math.max(Integer.bitCount(setIfSo[i]), Integer.bitCount(setIfNot[i]));
+            for (int f = 0; f < book.facts.count; f++) {
+                int most = book.facts.isDoubted(f) ? mostLeftBy(f) : least;
                 if (most < least) {
                     least = most;
-                    best = doubted[i];
+                    best = f;
                 }
             }
             return best;
@@ -987,71 +995,77 @@ public final class PoorDesk {
             return goes ? book.persons.leader[person] : NOBODY;
         }
 
-        /** Of one in the line, the parish of the latest gain without the facts whose bits are in denied. */
-        private int ownParish(int at, int denied) {
-            int person = line[at];
+        /** By what one in the line is settled of its own without the facts whose bits are in denied. */
+        private int latestGain(int at, int denied) {
             int latest = birthDay[at];
-            int parish = latest == NEVER ? NOWHERE : book.persons.birthplace[person];
+            int gain = latest == NEVER ? NO_GAIN : BY_BIRTH;
             for (int f = 0; f < book.facts.count; f++) {
-                boolean counts = book.facts.person[f] == person && (denied >> f & 1) == 0;
+                boolean counts = book.facts.person[f] == line[at] && (denied >> f & 1) == 0;
                 if (counts && gainDay[f] != NEVER && gainDay[f] >= latest) {
-                    parish = book.facts.parish[f];
+                    gain = f;
                     latest = gainDay[f];
                 }
             }
-            return parish;
+            return gain;
+        }
+
+        private int parishBy(int at, int gain) {
+            if (gain == BY_BIRTH) {
+                return book.persons.birthplace[line[at]];
+            }
+            return book.facts.has(gain) ? book.facts.parish[gain] : NOWHERE;
         }
 
         /** The farthest in the line with a settlement of its own tells; without any, the person itself. */
         private int teller(int denied) {
             for (int at = lineLength - 1; at > 0; at--) {
-                if (ownParish(at, denied) != NOWHERE) {
+                if (latestGain(at, denied) != NO_GAIN) {
                     return at;
                 }
             }
             return 0;
         }
 
-        private int settledParish(int denied) {
-            return ownParish(teller(denied), denied);
-        }
-
-        private int tryAllWays() {
-            findDoubted();
-            int all = 0;
-            for (int way = 0; way < 1 << doubts; way++) {
-                int parish = settledParish(deniedIn(way));
-                int outcome = 1 << (parish == NOWHERE ? MOST_PARISHES : parish);
-                all |= outcome;
-                for (int i = 0; i < doubts; i++) {
-                    if ((way >> i & 1) == 0) {
-                        setIfSo[i] |= outcome;
-                    } else {
-                        setIfNot[i] |= outcome;
-                    }
-                }
-            }
-            return all;
-        }
-
-        private void findDoubted() {
-            doubts = 0;
-            Arrays.fill(setIfSo, 0);
-            Arrays.fill(setIfNot, 0);
-            for (int f = 0; f < book.facts.count && doubts < MOST_DOUBTED; f++) {
-                if (book.facts.isDoubted(f)) {
-                    doubted[doubts] = f;
-                    doubts++;
-                }
-            }
-        }
-
-        private int deniedIn(int way) {
+        /** The gain that tells; while that is DOUBTED, the one that tells if it is not so, and so on. */
+        private void takeTurns() {
             int denied = 0;
-            for (int i = 0; i < doubts; i++) {
-                denied |= (way >> i & 1) << doubted[i];
+            boolean isOpen = true;
+            turns = 0;
+            while (turns < MOST_TURNS && isOpen) {
+                int at = teller(denied);
+                int gain = latestGain(at, denied);
+                int parish = parishBy(at, gain);
+                gainOfTurn[turns] = gain;
+                bitOfTurn[turns] = 1 << (parish == NOWHERE ? MOST_PARISHES : parish);
+                turns++;
+                isOpen = book.facts.has(gain) && book.facts.isDoubted(gain);
+                denied |= isOpen ? 1 << gain : 0;
             }
-            return denied;
+        }
+
+        private int mostLeftBy(int fact) {
+            return Math.max(Integer.bitCount(setUpTo(fact)), Integer.bitCount(setWithout(fact)));
+        }
+
+        /** What could be if a fact is so: no turn behind its own is taken. Of one that has no turn, all. */
+        private int setUpTo(int gain) {
+            int set = 0;
+            for (int t = 0; t < turns; t++) {
+                set |= bitOfTurn[t];
+                if (gainOfTurn[t] == gain) {
+                    return set;
+                }
+            }
+            return set;
+        }
+
+        /** What could be if a fact is not so. */
+        private int setWithout(int fact) {
+            int set = 0;
+            for (int t = 0; t < turns; t++) {
+                set |= gainOfTurn[t] == fact ? 0 : bitOfTurn[t];
+            }
+            return set;
         }
     }
 
