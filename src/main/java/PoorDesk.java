@@ -935,6 +935,7 @@ public final class PoorDesk {
         int couldBe(int person, int day, int known) {
             prepare(person, day, known);
             takeTurns();
+            // NO_GAIN stands in the last turn or in none, so this is the set of all turns.
             return setUpTo(NO_GAIN);
         }
 
